@@ -120,6 +120,10 @@ final class CarsTest {
                 Due.is(4, "kind " + kind + " in part " + part, x.pace(kind, part), due[kind][part]);
             }
         }
+        x.lays(6, 0, 1);
+        x.lays(7, 0, -1);
+        Due.is(4, "HEAVY on a RISE of -1", x.pace(1, 7), 12);
+        Due.is(4, "IRON on a RISE of 1", x.pace(3, 6), 7);
         Due.is(4, "car -1", x.pace(-1, 0), BAD);
         Due.is(4, "car 6", x.pace(6, 0), BAD);
         Due.is(4, "part -1", x.pace(0, -1), BAD);
@@ -158,6 +162,8 @@ final class CarsTest {
         x.lays(5, 0, 4);
         x.lays(5, 1, 3);
         Due.is(4, "r and b are of that PART", x.pace(0, 5), 11);
+        Due.text(x, "pace 0+7");
+        Due.is(4, "a NUMBER 0 is not b", x.pace(0, 5), 7);
         Due.text(x, "pace w/10");
         Due.is(4, "w is of that CAR", x.pace(0, 5), 9);
     }

@@ -146,6 +146,16 @@ final class FutureTest {
             }
             x.lays(part, 1, was);
         }
+        GhostTrain late = new GhostTrain();
+        late.gap(1);
+        late.car(0, 0, 99);
+        late.car(0, 19, 99);
+        late.lays(1, 2, 2);
+        late.seconds(1);
+        late.set(0, 1, 18);
+        // SET is 2: who comes by the first second misses, by the second one it screams; only BRAKE 9 is as slow.
+        Due.is(18, "9 is the last", late.brake(0, 2, 0), 9);
+        Due.is(18, "its SCREAMS", late.brake(0, 2, 1), 4);
         GhostTrain y = new GhostTrain();
         y.car(5, 0, 1);
         y.car(5, 0, 1);
@@ -206,6 +216,13 @@ final class FutureTest {
         y.seconds(1);
         Due.is(20, "SCREAMS that were count, without its own", y.off(1, 0), 1);
         Due.is(20, "these", y.off(1, 1), 2);
+        GhostTrain z = new GhostTrain();
+        z.car(4, 100, 1);
+        z.car(0, 19, 1);
+        z.lays(1, 2, 9);
+        z.seconds(1);
+        Due.is(20, "the one that did not scream", z.off(1, 0), 0);
+        Due.is(20, "SCREAMS of the other, once", z.off(1, 1), 2);
     }
 
     private static void offOfSeveral() {

@@ -200,7 +200,7 @@ final class ImagesTest {
         x.deal(3);
         x.seconds(7);
         x.gap(9);
-        x.lays(0, 2, 5);
+        x.lays(0, 2, 1);
         x.lays(11, 2, 60);
         x.lays(5, 2, 1);
         x.lays(5, 2, 0);

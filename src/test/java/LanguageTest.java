@@ -37,7 +37,8 @@ final class LanguageTest {
 
     private static void none(String bare, String rule, String pattern) {
         Matcher found = Pattern.compile(pattern).matcher(bare);
-        Due.holds(rule + ": " + (bare.length() > 0 && found.find() ? found.group() : ""), !found.reset().find());
+        boolean broken = found.find();
+        Due.holds(rule + (broken ? ": " + found.group() : ""), !broken);
     }
 
     private static void methodsStayShort(String bare) {

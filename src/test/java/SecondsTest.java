@@ -86,6 +86,13 @@ final class SecondsTest {
         x.set(0, 1, 19);
         Due.is(13, "not yet", x.seconds(1), 0);
         Due.is(13, "MISSED", x.told(0, 4), 1);
+        for (int part = 0; part < 12; part++) {
+            GhostTrain y = new GhostTrain();
+            y.car(0, (20 * part + 239) % 240, 1);
+            y.lays(part, 2, 9);
+            y.seconds(3);
+            Due.is(13, "SET of part " + part + " is less", y.part(part, 3), 7);
+        }
         x.set(0, 1, 20);
         x.lays(1, 2, 2);
         Due.is(13, "to be in it is not to enter it", x.seconds(1), 0);
@@ -178,6 +185,13 @@ final class SecondsTest {
         Due.is(14, "ROOM 0 is not NEAR, -1 is", x.ride(5), 1);
         x.gap(11);
         Due.is(14, "both are NEAR", x.ride(5), 2);
+        GhostTrain y = new GhostTrain();
+        y.car(0, 5, 1);
+        Due.is(14, "one alone is not NEAR", y.ride(5), 0);
+        y.car(0, 100, 1);
+        Due.is(14, "none is", y.ride(5), 0);
+        y.set(1, 1, 5);
+        Due.is(14, "car 0 is NEAR", y.ride(5), 1);
     }
 
     private static void lamps() {

@@ -41,8 +41,10 @@ final class SheetsTest {
         Due.is(32, "far below 0", x.sheet(0, 1, Integer.MIN_VALUE), GhostTrain.SIZE);
         Due.is(32, "the row stays when refused", place(x, 0, 23), 0);
         Due.is(32, "no place behind it", place(x, 0, 24), INDEX);
+        x.mark(0, 0, 66);
         x.mark(0, 5, 77);
         Due.is(32, "again", x.sheet(0, 0, 6), 6);
+        Due.is(32, "all 0, the first", place(x, 0, 0), 0);
         Due.is(32, "all 0", place(x, 0, 5), 0);
         Due.is(32, "MISSING, n any", x.sheet(0, -1, 25), 0);
         Due.is(32, "MISSING now", x.pour(0), NOTHING);

@@ -61,6 +61,12 @@ final class TextsTest {
         Due.is(29, "a FAULT", Due.text(x, "fee ("), -105);
         Due.is(29, "used up by a FAULT", x.count(6), 0);
         Due.is(25, "the TEXT stays", x.fee(), 7);
+        Due.is(29, "a FAULT late", Due.text(x, "fine !1+2+3)"), -111);
+        Due.is(29, "a TEXT behind it", Due.text(x, "fee 9"), 1);
+        Due.is(25, "nothing of the FAULT is in it", x.fee(), 9);
+        Due.is(30, "nor in what it has", x.textTold(1, 1), 1);
+        Due.is(29, "a FAULT at a word", Due.text(x, "fee fee"), -104);
+        Due.is(29, "no word is ahead of the first one", Due.text(x, "fee 1"), 2);
     }
 
     private static void value(String e, int due) {
@@ -176,6 +182,12 @@ final class TextsTest {
         fault("fee", 3);
         fault("fee ", 4);
         fault("fines f", 0);
+        fault("pacez", 0);
+        fault("pacea", 0);
+        fault("race w", 0);
+        fault("gee s", 0);
+        fault("line f", 0);
+        fault("pack w", 0);
         fault("w", 0);
         fault("(fee 1)", 0);
         fault("fee fee 1", 4);
@@ -303,6 +315,9 @@ final class TextsTest {
         Due.is(31, "fee", x.why(1), 1);
         Due.is(31, "fine, told last", x.why(2), 2);
         Due.is(31, "-1", x.why(-1), BAD);
+        GhostTrain y = new GhostTrain();
+        Due.text(y, "fee 7");
+        Due.is(31, "the first of all", y.why(1), 0);
         Due.is(31, "3", x.why(3), BAD);
         x.car(0, 0, 1);
         Due.is(31, "it counts", x.fine(0), 3);
