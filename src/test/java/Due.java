@@ -7,11 +7,15 @@ final class Due {
     }
 
     static void is(int promise, String what, long got, long want) {
+        is("promise " + promise, what, got, want);
+    }
+
+    static void is(String where, String what, long got, long want) {
         if (got == want) {
             right++;
         } else {
             wrong++;
-            System.out.println("promise " + promise + ": " + what + " answered " + got + ", due is " + want);
+            System.out.println(where + ": " + what + " answered " + got + ", due is " + want);
         }
     }
 
@@ -26,6 +30,10 @@ final class Due {
 
     static int wrongs() {
         return wrong;
+    }
+
+    static int answers() {
+        return right + wrong;
     }
 
     /** THE TAPE has to be empty ahead of it. */

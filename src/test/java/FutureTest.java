@@ -40,7 +40,7 @@ final class FutureTest {
     private static void behind() {
         GhostTrain x = crowd();
         GhostTrain real = crowd();
-        for (int n = 0; n <= 60; n++) {
+        for (int n = 0; n < 40; n++) {
             for (int what = 0; what < 4; what++) {
                 Due.is(16, "behind(" + n + ", " + what + ")", x.behind(n, what), real.ride(what));
             }
@@ -49,7 +49,7 @@ final class FutureTest {
             }
             real.seconds(1);
         }
-        real.seconds(239);
+        real.seconds(260);
         Due.is(16, "behind(300, 0)", x.behind(300, 0), real.ride(0));
         Due.is(16, "-1", x.behind(-1, 0), BAD);
         Due.is(16, "301", x.behind(301, 0), BAD);

@@ -1,20 +1,20 @@
 import java.lang.reflect.InvocationTargetException;
 import java.lang.reflect.Method;
 import java.lang.reflect.Modifier;
+import java.util.function.Supplier;
 
 /** No call throws, whatever its arguments: each with every choice out of a few odd ones, on objects in several states. */
 final class NoThrowTest {
     private static final int[] ODD = {Integer.MIN_VALUE, GhostTrain.NONE, -1, 0, 1, 3, 24, Integer.MAX_VALUE};
+    /** With those that make an object they stay below the 512 for which one is good. */
+    private static final int CALLS = 300;
 
     public static void main(String[] args) throws IllegalAccessException {
         for (Method method : GhostTrain.class.getDeclaredMethods()) {
             if (Modifier.isPublic(method.getModifiers())) {
-                callWithAll(new GhostTrain(), method);
-                callWithAll(full(), method);
-                GhostTrain kept = full();
-                kept.keep();
-                kept.deal(8);
-                callWithAll(kept, method);
+                callWithAll(GhostTrain::new, method);
+                callWithAll(NoThrowTest::full, method);
+                callWithAll(NoThrowTest::kept, method);
             }
         }
         Due.end();
@@ -44,11 +44,22 @@ final class NoThrowTest {
         return x;
     }
 
-    private static void callWithAll(GhostTrain x, Method method) throws IllegalAccessException {
+    private static GhostTrain kept() {
+        GhostTrain kept = full();
+        kept.keep();
+        kept.deal(8);
+        return kept;
+    }
+
+    private static void callWithAll(Supplier<GhostTrain> made, Method method) throws IllegalAccessException {
+        GhostTrain x = made.get();
         int many = method.getParameterCount();
         Object[] arguments = new Object[many];
         int choices = 1 << 3 * many;
         for (int choice = 0; choice < choices; choice++) {
+            if (choice % CALLS == CALLS - 1) {
+                x = made.get();
+            }
             for (int i = 0; i < many; i++) {
                 arguments[i] = ODD[choice >> 3 * i & 7];
             }
