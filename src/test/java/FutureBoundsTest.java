@@ -86,6 +86,41 @@ final class FutureBoundsTest extends Bounds {
         are("brake without cars", new int[] {new GhostTrain().brake(11, 100, 0), new GhostTrain().brake(11, 100, 1)}, 0, 0);
     }
 
+    /** A CAR that goes on by 1 in all parts but the fourth, where it goes by 6; part 5 is the one with a SCARE. */
+    private static GhostTrain walker(int foot) {
+        GhostTrain x = new GhostTrain();
+        for (int part = 0; part < 12; part++) {
+            x.lays(part, 0, part == 4 ? 0 : 5);
+        }
+        x.lays(5, 2, 60);
+        x.car(0, foot, 1);
+        return x;
+    }
+
+    /** It enters part 5 in so many seconds, the last four of which it is in part 4. */
+    private static GhostTrain walkerIn(int seconds) {
+        return walker((80 - (seconds - 4) + 240) % 240);
+    }
+
+    @Says({"BEST BRAKE of a PART, for n (1 .. 100)", "MOVED of a SCARE, for n (1 .. 100).", "KISS of a PART, for n (1 .. 100)."})
+    static void promise18To22AllSecondsOfN() {
+        for (int n = 98; n <= 100; n++) {
+            for (int in = 98; in <= 101; in++) {
+                String told = "SCREAMS behind " + n + ", that come in " + in;
+                int come = in <= n ? 2 : 0;
+                is(told + ": brake", walkerIn(in).brake(9, n, 1), come);
+                is(told + ": moved", walkerIn(in).moved(5, 10, n), -come);
+                is(told + ": kiss", walkerIn(in).kiss(4, n), come);
+                GhostTrain x = walkerIn(in);
+                x.car(5, 100, 1);
+                is(told + ": off", x.off(n, 1), come);
+                GhostTrain y = walker((100 - in + 240) % 240);
+                y.lays(4, 0, 5);
+                is(told + ": kind", y.kind(0, n, 1), in <= n ? 4 : 0);
+            }
+        }
+    }
+
     @Says("BEST BRAKE of a PART, for n: the BRAKE 0 .. 9 with which SCREAMS of all less STOOD of all behind n SECONDS are "
             + "most; of several the least.")
     static void promise18From0To9() {
@@ -193,6 +228,23 @@ final class FutureBoundsTest extends Bounds {
             }
             is("of several the least", x.off(1, 0), 0);
         }
+    }
+
+    @Says("SCREAMS of all others behind n SECONDS are most")
+    static void promise20OfAllOthers() {
+        int[] kinds = {0, 4, 1, 2};
+        GhostTrain x = new GhostTrain();
+        for (int car = 0; car < 4; car++) {
+            x.car(kinds[car], 19 + 40 * car, 1);
+            x.lays(1 + 2 * car, 2, 60);
+        }
+        x.seconds(1);
+        are("2, 4, 1, 3 that came by now", new int[] {x.ride(0), x.off(1, 0), x.off(1, 1)}, 10, 2, 9);
+        x.set(2, 1, 39);
+        x.lays(2, 2, 60);
+        x.turns(2, 4);
+        are("car 2 has 1 by now and 4 come, car 0 has 2 and none comes", new int[] {x.off(1, 0), x.off(1, 1)}, 0, 12);
+        are("behind 1 second", new int[] {x.behind(1, 0), x.ride(0)}, 14, 10);
     }
 
     @Says("AS KIND of a CAR, for n (1 .. 100): what 0 the KIND, 1 SCREAMS. BAD.")
@@ -332,27 +384,26 @@ final class FutureBoundsTest extends Bounds {
     @Says("the WEIGHT 1, 6, .. 96 with which its FOOT behind k SECONDS and places k that are numbers (k from 0 on) differ "
             + "least (signs left out), together; of several the least.")
     static void promise24From1To96() {
+        for (int best = 1; best <= 96; best += 5) {
+            GhostTrain x = fastBy("w=" + best);
+            are("one alone is so fast", new int[] {x.weighed(0, 0, 0), x.weighed(0, 0, 1)}, best, 100);
+            x = fastBy("w>" + (best - 1));
+            are("all from one on are", new int[] {x.weighed(0, 0, 0), x.weighed(0, 0, 1)}, best, 100);
+            x = fastBy("w=" + (best + 1) + "|w=" + (best + 4) + "|w=" + (best - 1));
+            are("none of them is", new int[] {x.weighed(0, 0, 0), x.weighed(0, 0, 1)}, 1, 119);
+        }
+        GhostTrain x = fastBy("w>96|w<1");
+        are("none is", new int[] {x.weighed(0, 0, 0), x.weighed(0, 0, 1)}, 1, 119);
+    }
+
+    /** The SHEET tells foot 0 where the car is on foot 100, and foot 120 behind one second: by 20, not by 1. */
+    private static GhostTrain fastBy(String weights) {
         GhostTrain x = new GhostTrain();
         x.car(0, 100, 50);
         x.sheet(0, 0, 2);
-        x.mark(0, 0, 100);
         x.mark(0, 1, 120);
-        for (int best = 1; best <= 96; best += 5) {
-            if (x.count(4) < 14) {
-                Due.text(x, "pace (w=" + best + ")*20");
-                is("the only one that is so fast", x.weighed(0, 0, 0), best);
-                is("no differences", x.weighed(0, 0, 1), 0);
-            }
-        }
-        for (int other : new int[] {0, 2, 5, 7, 95, 97}) {
-            GhostTrain y = new GhostTrain();
-            y.car(0, 100, 50);
-            y.sheet(0, 0, 2);
-            y.mark(0, 1, 120);
-            Due.text(y, "pace (w=" + other + ")*20");
-            is("WEIGHT " + other + " is none of them: of several the least", y.weighed(0, 0, 0), 1);
-            is("differences", y.weighed(0, 0, 1), 100 + 19);
-        }
+        Due.text(x, "pace (" + weights + ")*20");
+        return x;
     }
 
     @Says("its FOOT behind k SECONDS and places k that are numbers (k from 0 on) differ least (signs left out), together")

@@ -17,7 +17,7 @@ final class LanguageTest {
         String bare = withoutCommentsAndTexts(source);
         none(bare, "rule 6", "\\b(throw|throws|try|catch|finally|synchronized|assert|volatile|transient)\\b");
         none(bare, "rule 6: no such method of its own", "\\b(equals|hashCode|toString|finalize)\\s*\\([^)]*\\)\\s*\\{");
-        none(bare, "rule 2", "->|::|@interface");
+        none(bare, "rule 2", "(?<!\\bcase [^;{}\\n]{1,80})(?<!\\bdefault )->|::|@interface");
         none(bare, "rule 1: no package", "\\bpackage\\b");
         none(bare, "rule 4: no library but Arrays, ArrayList, List", "\\bimport\\s+(?!java\\.util\\.(Arrays|ArrayList|List);)");
         none(bare, "rule 4", "\\b\\w+Exact\\s*\\(|\\bSystem\\.(?!arraycopy)|\\b(Random|Thread|StrictMath|Object)\\b");

@@ -88,6 +88,12 @@ final class SheetBoundsTest extends Bounds {
 
     @Says("BAD: sheet; NOTHING; INDEX; KIND: NONE in a row of shorts; BAD: v of floats.")
     static void promise33Bad() {
+        range(() -> {
+            GhostTrain x = busy();
+            x.sheet(2, 0, 1);
+            x.sheet(3, 1, 1);
+            return x;
+        }, "sheet of mark", 0, 3, BAD, (x, v) -> x.mark(v, 0, 1));
         for (int sheet : new int[] {LEAST_INT, -1, 4, MOST_INT}) {
             refuses(BUSY, "mark(" + sheet + ", 0, 1)", BAD, x -> x.mark(sheet, 0, 1));
             refuses(BUSY, "mark(" + sheet + ", -1, NONE), BAD goes first", BAD, x -> x.mark(sheet, -1, NONE));
@@ -364,6 +370,22 @@ final class SheetBoundsTest extends Bounds {
         refuses(BUSY, "ask(0, 5) of an IRON one", KIND, x -> x.ask(0, 5));
         for (int kind : new int[] {0, 1, 3}) {
             refuses(BUSY, "ask(0, " + kind + ") of an IRON one", 2 * (99 + 8), x -> x.ask(0, kind));
+        }
+    }
+
+    @Says({"KIND: it is no CAR", "KIND: it is no SHEET", "KIND: it is no number"})
+    static void promise38To40NothingOfWhatItHeld() {
+        GhostTrain x = new GhostTrain();
+        x.car(0, 0, 30);
+        x.sheet(0, 0, 1);
+        for (int[] things : new int[][] {{1, 2, 3}, {1, 3, 2}, {2, 1, 3}, {2, 3, 1}, {3, 1, 2}, {3, 2, 1}}) {
+            for (int thing : things) {
+                x.lay(0, thing, 0);
+                are("behind thing " + thing, new int[] {x.ask(0, 0), x.item(0, 0), x.rest(0, 7)}, thing == 1 ? 30 : KIND,
+                        thing == 2 ? 0 : KIND, thing == 3 ? 0 : KIND);
+            }
+            x.lay(0, 0, 0);
+            are("behind nothing", new int[] {x.ask(0, 0), x.item(0, 0), x.rest(0, 7)}, NOTHING, NOTHING, NOTHING);
         }
     }
 

@@ -54,6 +54,15 @@ final class TermBoundsTest extends Bounds {
         });
         refuses(usedUp, "text() of no bytes", -100, x -> x.text());
         refuses(usedUp, "a FAULT, and nothing else than THE TAPE", -105, x -> Due.text(x, "fee (") + x.count(6));
+        Made fullAndUsedUp = () -> {
+            GhostTrain x = crammed();
+            x.trim(0);
+            return x;
+        };
+        refuses(fullAndUsedUp, "text() where there is no room", FULL, x -> {
+            Due.tape(x, "fine 1");
+            return x.text();
+        });
         Made noneWait = () -> {
             GhostTrain x = busy();
             x.check(1);
@@ -61,6 +70,34 @@ final class TermBoundsTest extends Bounds {
         };
         refuses(noneWait, "check(0), and nothing else than the numbers", BAD, x -> x.tell(5) + x.check(0) - 1);
         refuses(noneWait, "check(1) that is not so", 1, x -> x.tell(5) + x.check(1) - 1);
+    }
+
+    @Says("An object is used for at most 512 calls after it has been made")
+    static void term0UsedFor512Calls() {
+        GhostTrain feeds = new GhostTrain();
+        GhostTrain dreams = new GhostTrain();
+        GhostTrain keeps = new GhostTrain();
+        GhostTrain lays = new GhostTrain();
+        dreams.car(0, 0, 1);
+        keeps.car(5, 0, 1);
+        lays.sheet(0, 1, 24);
+        int last = 0;
+        for (int call = 2; call <= 512; call += 2) {
+            feeds.feed(0x66656520, 0x39393939, 0x2d313131);
+            last = feeds.text();
+            if (call > 2) {
+                is("behind(300, 4)", dreams.behind(300, 4), 300 * 6 % 240);
+                is("gaps(60)", dreams.gaps(60), 60);
+                keeps.keep();
+                keeps.seconds(1);
+                lays.lay(call % 5, 2, 0);
+                lays.copy(0, 0, 0, 1, 23);
+            }
+        }
+        is("the 512th call: text()", last, FULL);
+        is("the 512th call: count(1)", dreams.count(1), 0);
+        is("the 512th call: told(0, 1)", keeps.told(0, 1), 7 * 255 % 240);
+        is("the 512th call: item(4, 23)", lays.item(4, 23), 0);
     }
 
     @Says("Sets of CARS, of PARTS are told by bits.")

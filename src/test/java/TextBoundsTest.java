@@ -130,6 +130,20 @@ final class TextBoundsTest extends Bounds {
         }
     }
 
+    @Says("an act that reads it uses it up, whatever it answers")
+    static void term4NothingIsLeft() {
+        String[] faults = {"", "fee", "fee fee", "fee 12345", "fee !1+2+3)", "fee ((((((((", "fee 1 2", "fee s 1", "pace w", "fe",
+            "fee 1+1+1+1+1+1&"};
+        for (String fault : faults) {
+            GhostTrain x = new GhostTrain();
+            Due.text(x, fault);
+            int text = Due.text(x, "fee 9");
+            are("a TEXT behind '" + fault + "'", new int[] {text, x.fee(), x.textTold(text, 0), x.textTold(text, 1)},
+                    fault.startsWith("pace") ? 1 : 0, 9, 1, 1);
+            is("one more that begins with a FAULT", Due.text(x, "9 fee"), -100);
+        }
+    }
+
     // ---- reading
 
     @Says({"THE TAPE is a TEXT: its number. -100 less the place of its FAULT; FULL.", "TEXTS, 14 at most, numbered from 0"})
@@ -218,6 +232,13 @@ final class TextBoundsTest extends Bounds {
         Due.text(x, "pace 9");
         Due.text(x, "pace 8");
         are("pace", new int[] {x.why(0), x.pace(0, 0), x.why(2)}, 4, 8, 2);
+        for (int key = 0; key < 3; key++) {
+            GhostTrain y = new GhostTrain();
+            y.car(0, 5, 1);
+            is("the first of all", Due.text(y, KEYS[key] + " 19"), 0);
+            are("what it gives", new int[] {y.pace(0, 0), y.fee(), y.fine(0)}, key == 0 ? 19 : 6, key == 1 ? 19 : 0,
+                    key == 2 ? 19 : 0);
+        }
     }
 
     // ---- the words
@@ -227,7 +248,8 @@ final class TextBoundsTest extends Bounds {
         good("pace 1");
         good("fee 1");
         good("fine 1");
-        for (String no : new String[] {"pac", "pacee", "fe", "feee", "fin", "finee", "Fee", "f", "w", "1", "(", "e", "fees"}) {
+        for (String no : new String[] {"pac", "pacee", "fe", "feee", "fin", "finee", "Fee", "f", "w", "1", "(", "e", "fees",
+            "feez", "feea", "gee", "fae", "fef", "race", "pbce", "paae", "pacf", "line", "fane", "fiee", "find"}) {
             fault(0, no + " 1");
             fault(2, "  " + no + " 1");
         }
@@ -437,6 +459,10 @@ final class TextBoundsTest extends Bounds {
         gives(LEAST_INT, least + "/(0-1)");
         gives(0, least + "*2");
         gives(1, least + "<0");
+        gives(1, least + "<1");
+        gives(1, "1>" + least);
+        gives(0, "1<" + least);
+        gives(0, least + ">1");
         gives(1, least + "-1>0");
     }
 
